@@ -44,6 +44,10 @@ final class Check {
         }
     }
 
+    boolean isRight() {
+        return wrong == 0;
+    }
+
     void end() {
         System.out.println(about + ": " + asked + " asked, " + wrong + " wrong");
         if (wrong != 0) {

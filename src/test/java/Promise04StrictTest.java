@@ -4,6 +4,8 @@ final class Promise04StrictTest {
         answers(check);
         firstLongEnough(check);
         longestElse(check);
+        oneSeatMidway(check);
+        noFreeSeat(check);
         onlyWhereItIsOn(check);
         check.end();
     }
@@ -58,6 +60,27 @@ final class Promise04StrictTest {
         GroupSeats again = gaps();
         check.due("book(7, 0) of 0, 0", Hall.book(again, 7, 0, 0, 0), 9);
         check.dueSeats(again, 0, ".1..399995..7999.");
+    }
+
+    private static void oneSeatMidway(Check check) {
+        GroupSeats x = Hall.of(4);
+        for (int n : new int[] {2, 1, 1}) {
+            Hall.book(x, n, 0, 0);
+        }
+        x.cancel(1);
+        x.strict(0, true);
+        check.due("book(1, 0)", Hall.book(x, 1, 0, 0), 3);
+        check.dueSeats(x, 0, "0032");
+    }
+
+    private static void noFreeSeat(Check check) {
+        GroupSeats x = Hall.of(2, 2);
+        x.strict(0, true);
+        Hall.book(x, 2, 0, 0);
+        check.due("book(2, 0) of 0, full", Hall.book(x, 2, 0, 0), GroupSeats.SHORT);
+        check.due("book(2, 0) of 0, 1", Hall.book(x, 2, 0, 0, 1), 1);
+        check.dueSeats(x, 0, "00");
+        check.dueSeats(x, 1, "11");
     }
 
     private static void onlyWhereItIsOn(Check check) {

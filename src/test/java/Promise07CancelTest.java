@@ -4,6 +4,7 @@ final class Promise07CancelTest {
         frees(check);
         refuses(check);
         triesOnceInOrder(check);
+        newOnesWaitBehind(check);
         staysWhenItsRowIsShut(check);
         roomForBookings(check);
         check.end();
@@ -58,6 +59,33 @@ final class Promise07CancelTest {
         check.dueSeats(x, 0, "11113.");
         check.due("waiting(1)", x.waiting(1), 7);
         check.due("told(1)", x.told(1), 2);
+    }
+
+    /** Places come free in the queue when some are DONE; those that stay keep size and list. */
+    private static void newOnesWaitBehind(Check check) {
+        GroupSeats x = Hall.of(3, 2);
+        Hall.book(x, 3, 0, 0);
+        Hall.book(x, 1, 2, 0);
+        Hall.book(x, 5, 2, 0, 0);
+        Hall.book(x, 2, 2, 0);
+        Hall.book(x, 4, 2, 0);
+        check.due("cancel(0)", x.cancel(0), 2);
+        int[] behind = {9, 10, 11, 12, 13, 14};
+        for (int n : behind) {
+            check.due("book(" + n + ", 2)", Hall.book(x, n, 2, 1), GroupSeats.WAITS);
+        }
+        check.due("book(15, 2)", Hall.book(x, 15, 2, 1), GroupSeats.SHORT);
+        check.due("waiting(0)", x.waiting(0), 5);
+        check.due("waiting(1)", x.waiting(1), 4);
+        for (int i = 0; i < behind.length; i++) {
+            check.due("waiting(" + (i + 2) + ")", x.waiting(i + 2), behind[i]);
+        }
+        x.cancel(1);
+        x.cancel(2);
+        x.shut(0);
+        check.due("open(0, 10)", x.open(0, 10), 2);
+        check.dueSeats(x, 0, "333334444.");
+        check.due("waiting(0)", x.waiting(0), 9);
     }
 
     private static void staysWhenItsRowIsShut(Check check) {

@@ -32,24 +32,6 @@ final class Promise12ToldTest {
         check.due("told(2): the most stays", x.told(2), 3);
         Hall.book(x, 9, 0, 0, 0, 0, 0, 0, 0);
         check.due("told(2): six times", x.told(2), 6);
-        byOneThatWaits(check);
-    }
-
-    private static void byOneThatWaits(Check check) {
-        GroupSeats x = Hall.of(4, 1);
-        Hall.book(x, 5, 2, 0, 0, 1, 0);
-        check.due("told(2): DONE in the third", x.told(2), 3);
-        Hall.book(x, 5, 2, 0, 0, 0);
-        x.cancel(0);
-        check.due("told(0)", x.told(0), 1);
-        GroupSeats y = Hall.of(1, 2);
-        Hall.book(y, 3, 0, 1, 0);
-        Hall.book(y, 4, 2, 0, 1);
-        y.cancel(0);
-        y.shut(1);
-        y.open(1, 9);
-        check.due("told(2)", y.told(2), 2);
-        check.due("told(0)", y.told(0), 2);
     }
 
     private static void failuresEachTime(Check check) {
