@@ -1,6 +1,7 @@
 /** Compares answers with those that are due, and ends a test with exit code 1 if one differs. */
 final class Check {
     private final String about;
+    private String sentence = "";
     private int asked = 0;
     private int wrong = 0;
 
@@ -8,33 +9,37 @@ final class Check {
         this.about = about;
     }
 
+    /** Names the words of the document by which the next answers are due. */
+    void sentence(String words) {
+        sentence = " \"" + words + "\"";
+    }
+
     void due(String call, long got, long want) {
         asked++;
         if (got != want) {
-            wrong++;
-            System.out.println(about + ": " + call + " answered " + got + ", due is " + want);
+            tell(call + " answered " + got + ", due is " + want);
         }
     }
 
     void holds(String what, boolean is) {
         asked++;
         if (!is) {
-            wrong++;
-            System.out.println(about + ": not so: " + what);
+            tell("not so: " + what);
         }
+    }
+
+    private void tell(String what) {
+        wrong++;
+        System.out.println(about + sentence + ": " + what);
+    }
+
+    void dueSame(String what, String got, String want) {
+        holds(what + " is " + want + " (it is " + got + ")", got.equals(want));
     }
 
     /** Asks for all seats of a row at once: a digit or letter for a booking, '.' for a free seat. */
     void dueSeats(GroupSeats x, int row, String want) {
-        StringBuilder got = new StringBuilder();
-        for (int i = 0; i < 21; i++) {
-            int of = x.seat(row, i);
-            if (of == GroupSeats.STATE) {
-                break;
-            }
-            got.append(of == GroupSeats.NONE ? '.' : Character.forDigit(of, 36));
-        }
-        holds("row " + row + " is " + want + " (it is " + got + ")", got.toString().equals(want));
+        dueSame("row " + row, Hall.seats(x, row), want);
     }
 
     /** Asks for everything that told() tells, in its order. */
@@ -42,6 +47,22 @@ final class Check {
         for (int what = 0; what < want.length; what++) {
             due("told(" + what + ")", x.told(what), want[what]);
         }
+    }
+
+    /** Asks for everything that about() tells of a row, in its order. */
+    void dueAbout(GroupSeats x, int row, int... want) {
+        for (int what = 0; what < want.length; what++) {
+            due("about(" + row + ", " + what + ")", x.about(row, what), want[what]);
+        }
+    }
+
+    /** Asks for all that wait: how many each is, and that nobody stands behind them. */
+    void dueWaiting(GroupSeats x, int... want) {
+        due("told(1)", x.told(1), want.length);
+        for (int k = 0; k < want.length; k++) {
+            due("waiting(" + k + ")", x.waiting(k), want[k]);
+        }
+        due("waiting(" + want.length + ")", x.waiting(want.length), GroupSeats.NONE);
     }
 
     boolean isRight() {
