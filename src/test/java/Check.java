@@ -14,6 +14,11 @@ final class Check {
         sentence = " \"" + words + "\"";
     }
 
+    /** Names words of the document, and which of the cases that they hold for is looked at. */
+    void sentence(String words, String which) {
+        sentence = " \"" + words + "\" (" + which + ")";
+    }
+
     void due(String call, long got, long want) {
         asked++;
         if (got != want) {

@@ -64,7 +64,7 @@ final class Promise01NewObjectTest {
     }
 
     private static void objectsShareNothing(Check check) {
-        check.sentence("A new object, another one in use");
+        check.sentence("A new object", "another one in use");
         GroupSeats used = Hall.of(3);
         Hall.book(used, 1, 0, 0);
         Hall.book(used, 9, 2, 0);

@@ -70,7 +70,7 @@ final class Promise03ShutTest {
     }
 
     private static void givenBackIsFree(Check check) {
-        check.sentence("or a SEAT is of a BOOKING: not one that was given back");
+        check.sentence("or a SEAT is of a BOOKING", "not one that was given back");
         GroupSeats x = Hall.of(3);
         Hall.book(x, 5, 0, 0);
         Hall.book(x, 5, 2, 0);

@@ -59,7 +59,7 @@ final class Promise05ListTest {
     }
 
     private static void roomAgain(Check check) {
-        check.sentence("ROOM: not after book(), whatever it answered");
+        check.sentence("ROOM", "not after book(), whatever it answered");
         for (int mode = 0; mode < 3; mode++) {
             GroupSeats x = Hall.of(1);
             for (int i = 0; i < 6; i++) {

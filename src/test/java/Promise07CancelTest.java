@@ -27,7 +27,7 @@ final class Promise07CancelTest {
     }
 
     private static void inEveryRow(Check check) {
-        check.sentence("A BOOKING's SEATS are free, the first and the last ROW and SEAT");
+        check.sentence("A BOOKING's SEATS are free", "in the first and the last ROW too");
         GroupSeats x = Hall.of(10, 10, 10, 10, 10, 10, 10, 10, 10, 10);
         Hall.book(x, 60, 0, 9, 8, 7, 6, 5, 4);
         Hall.book(x, 40, 0, 0, 1, 2, 3);
@@ -68,7 +68,7 @@ final class Promise07CancelTest {
 
     /** Places come free in the queue when some are DONE; those that stay keep size and list. */
     private static void newOnesWaitBehind(Check check) {
-        check.sentence("then those that wait are tried, and others wait behind them");
+        check.sentence("then those that wait are tried", "and others wait behind them");
         GroupSeats x = Hall.of(3, 2);
         Hall.book(x, 3, 0, 0);
         Hall.book(x, 1, 2, 0);

@@ -27,7 +27,7 @@ final class Promise08LeaveTest {
 
     /** Those behind keep their own lists, and a list in the making is nobody else's. */
     private static void withItsList(Check check) {
-        check.sentence("Who waits in place k goes: the others have their LISTS yet");
+        check.sentence("Who waits in place k goes", "the others keep their LISTS");
         GroupSeats x = Hall.of(1, 1, 1);
         Hall.book(x, 2, 2, 0);
         Hall.book(x, 3, 2, 1);

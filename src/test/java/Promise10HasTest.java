@@ -23,7 +23,7 @@ final class Promise10HasTest {
     }
 
     private static void heldAgainIsOneSum(Check check) {
-        check.sentence("How many SEATS a BOOKING has in a ROW that it held again");
+        check.sentence("How many SEATS a BOOKING has in a ROW", "one that it held again");
         GroupSeats x = Hall.withRow("...#....");
         x.strict(0, true);
         Hall.book(x, 7, 0, 0, 0);
@@ -31,7 +31,7 @@ final class Promise10HasTest {
     }
 
     private static void ofACancelledOne(Check check) {
-        check.sentence("How many SEATS a BOOKING has, cancelled");
+        check.sentence("How many SEATS a BOOKING has in a ROW", "cancelled");
         GroupSeats x = Hall.of(4);
         Hall.book(x, 4, 0, 0);
         x.cancel(0);
@@ -55,7 +55,7 @@ final class Promise10HasTest {
     }
 
     private static void outsideBooking(Check check) {
-        check.sentence("OUTSIDE: no such BOOKING");
+        check.sentence("OUTSIDE", "no such BOOKING");
         check.due("has(0, 0), none yet", Hall.of(2).has(0, 0), GroupSeats.OUTSIDE);
         GroupSeats x = Hall.withBookings(3);
         Hall.book(x, 60, 2, 0);
@@ -69,7 +69,7 @@ final class Promise10HasTest {
     }
 
     private static void outsideRow(Check check) {
-        check.sentence("OUTSIDE: no such ROW");
+        check.sentence("OUTSIDE", "no such ROW");
         GroupSeats x = Hall.withBookings(3);
         for (int row : Hall.outside(0, 9)) {
             check.due("has(0, " + row + ")", x.has(0, row), GroupSeats.OUTSIDE);

@@ -43,7 +43,7 @@ final class Promise11AboutTest {
     }
 
     private static void heldByThoseThatWait(Check check) {
-        check.sentence("1 how often it was held by PARTIES, each time that they are tried");
+        check.sentence("1 how often it was held by PARTIES", "each time that they are tried");
         GroupSeats x = Hall.withWaiting(3);
         check.due("about(0, 1)", x.about(0, 1), 3);
         x.open(1, 1);
@@ -53,7 +53,7 @@ final class Promise11AboutTest {
     }
 
     private static void shutRowsAreNotHeld(Check check) {
-        check.sentence("1 how often it was held by PARTIES: not while it was not OPEN");
+        check.sentence("1 how often it was held by PARTIES", "not while it was not OPEN");
         GroupSeats x = Hall.of(2);
         Hall.book(x, 3, 0, 0, 4);
         Hall.book(x, 3, 0, 4, 0);
@@ -84,7 +84,7 @@ final class Promise11AboutTest {
     }
 
     private static void outsideRow(Check check) {
-        check.sentence("OUTSIDE: no such ROW");
+        check.sentence("OUTSIDE", "no such ROW");
         GroupSeats x = Hall.of(1, 1, 1, 1, 1, 1, 1, 1, 1, 1);
         for (int row : Hall.outside(0, 9)) {
             for (int what = 0; what < 4; what++) {
@@ -95,7 +95,7 @@ final class Promise11AboutTest {
     }
 
     private static void outsideWhat(Check check) {
-        check.sentence("OUTSIDE: what is not 0 to 3");
+        check.sentence("OUTSIDE", "what is not 0 to 3");
         GroupSeats x = Hall.of(5);
         for (int what : Hall.outside(0, 3)) {
             check.due("about(0, " + what + ")", x.about(0, what), GroupSeats.OUTSIDE);

@@ -64,7 +64,7 @@ final class Promise12ToldTest {
     }
 
     private static void mostRowsOfThoseThatFail(Check check) {
-        check.sentence("2 the most ROWS that a PARTY held at a time so far, not those it did not get to");
+        check.sentence("2 the most ROWS that a PARTY held at a time so far", "not those that it did not get to");
         GroupSeats x = Hall.of(1, 1);
         Hall.book(x, 1, 0, 7);
         Hall.book(x, 1, 0, 11);

@@ -49,7 +49,7 @@ final class Promise13WaitingTest {
     }
 
     private static void changesNothing(Check check) {
-        check.sentence("waiting, asked for twice");
+        check.sentence("How many the PARTY is that waits in place k", "to ask changes nothing");
         GroupSeats x = Hall.withWaiting(3);
         x.waiting(1);
         x.waiting(9);

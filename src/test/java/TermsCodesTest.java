@@ -16,7 +16,7 @@ final class TermsCodesTest {
     }
 
     private void numbers() {
-        check.sentence("OUTSIDE -1, STATE -2, ROOM -3, SHORT -4, SHUT -5, NO_ROW -6, WAITS -7, NONE -8");
+        check.sentence("Codes: OUTSIDE -1", "and the others in their order");
         int[] codes = {GroupSeats.OUTSIDE, GroupSeats.STATE, GroupSeats.ROOM, GroupSeats.SHORT,
             GroupSeats.SHUT, GroupSeats.NO_ROW, GroupSeats.WAITS, GroupSeats.NONE};
         for (int i = 0; i < codes.length; i++) {
@@ -46,7 +46,7 @@ final class TermsCodesTest {
     }
 
     private void outsideChangesNothing() {
-        check.sentence("What answers OUTSIDE changes nothing");
+        check.sentence("What answers OUTSIDE, STATE, ROOM changes nothing", "OUTSIDE");
         Supplier<GroupSeats> hall = TermsCodesTest::inUse;
         for (int wrong : Hall.outside(0, 11)) {
             refused(hall, "list(" + wrong + ")", -1, x -> x.list(wrong));
@@ -83,7 +83,7 @@ final class TermsCodesTest {
     }
 
     private void stateChangesNothing() {
-        check.sentence("What answers STATE changes nothing");
+        check.sentence("What answers OUTSIDE, STATE, ROOM changes nothing", "STATE");
         Supplier<GroupSeats> hall = TermsCodesTest::inUse;
         refused(hall, "open(0, 4), OPEN", -2, x -> x.open(0, 4));
         refused(hall, "open(1, 20), OPEN", -2, x -> x.open(1, 20));
@@ -101,7 +101,7 @@ final class TermsCodesTest {
     }
 
     private void roomChangesNothing() {
-        check.sentence("What answers ROOM changes nothing");
+        check.sentence("What answers OUTSIDE, STATE, ROOM changes nothing", "ROOM");
         for (int number = 0; number < 12; number++) {
             int seventh = number;
             refused(TermsCodesTest::listFull, "list(" + number + "), a seventh", -3, x -> x.list(seventh));
@@ -114,11 +114,13 @@ final class TermsCodesTest {
     }
 
     private void refused(Supplier<GroupSeats> hall, String name, int code, ToIntFunction<GroupSeats> call) {
-        GroupSeats asked = hall.get();
-        GroupSeats twin = hall.get();
-        check.due(name, call.applyAsInt(asked), code);
-        check.dueSame("the object after " + name, Twins.view(asked), Twins.view(twin));
-        check.dueSame("what comes after " + name, Twins.aftermath(asked), Twins.aftermath(twin));
+        for (int n : new int[] {3, 60}) {
+            GroupSeats asked = hall.get();
+            GroupSeats twin = hall.get();
+            check.due(name, call.applyAsInt(asked), code);
+            check.dueSame("the object after " + name, Twins.view(asked), Twins.view(twin));
+            check.dueSame("what comes after " + name, Twins.aftermath(asked, n), Twins.aftermath(twin, n));
+        }
     }
 
     /** Rows that are STRICT, not so, and shut; bookings 0 (cancelled) to 2; two that wait. */
@@ -146,9 +148,9 @@ final class TermsCodesTest {
 
     private static GroupSeats listFull() {
         GroupSeats x = inUse();
-        x.list(9);
-        x.list(10);
         x.list(0);
+        x.list(1);
+        x.list(9);
         return x;
     }
 

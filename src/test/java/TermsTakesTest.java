@@ -114,7 +114,7 @@ final class TermsTakesTest {
     }
 
     private static void strictAndHeldAgain(Check check) {
-        check.sentence("in a STRICT one the first stretch of free SEATS side by side that is w long, a ROW held again");
+        check.sentence("in a STRICT one the first stretch of free SEATS side by side that is w long", "a ROW held again");
         GroupSeats x = Hall.withRow("..#...#.");
         x.strict(0, true);
         check.due("book(5, 0) of 0, 0", Hall.book(x, 5, 0, 0, 0), 5);

@@ -89,7 +89,7 @@ final class TermsWaitingTest {
     }
 
     private static void triedByCancel(Check check) {
-        check.sentence("When SEATS came free (by cancel()) each is tried");
+        check.sentence("When SEATS came free (by cancel())", "each is tried");
         GroupSeats x = Hall.of(2, 2);
         Hall.book(x, 2, 0, 0);
         Hall.book(x, 1, 0, 1);
@@ -104,7 +104,7 @@ final class TermsWaitingTest {
     }
 
     private static void triedByOpen(Check check) {
-        check.sentence("or a ROW is OPEN anew (open()), each is tried");
+        check.sentence("or a ROW is OPEN anew (open())", "each is tried");
         GroupSeats x = Hall.withWaiting(2);
         check.due("open(1, 9): a row that is none of theirs", x.open(1, 9), 0);
         check.due("told(3): two tried", x.told(3), 4);
@@ -115,7 +115,7 @@ final class TermsWaitingTest {
     }
 
     private static void triedByNothingElse(Check check) {
-        check.sentence("When SEATS came free (by cancel()), or a ROW is OPEN anew (open())");
+        check.sentence("When SEATS came free (by cancel()), or a ROW is OPEN anew (open())", "by nothing else");
         GroupSeats x = Hall.withRow(".#.");
         x.strict(0, true);
         check.due("book(2, 2)", Hall.book(x, 2, 2, 0), GroupSeats.WAITS);
@@ -185,7 +185,7 @@ final class TermsWaitingTest {
 
     /** What the document says of those DONE alone: the others wait, by whatever they FAILED. */
     private static void waitOn(Check check) {
-        check.sentence("those that are DONE are BOOKINGS, and wait no more: the others wait");
+        check.sentence("those that are DONE are BOOKINGS, and wait no more", "the others wait on");
         GroupSeats x = Hall.of(1, 1, 1);
         Hall.book(x, 3, 2, 0, 1);
         Hall.book(x, 1, 0, 2);

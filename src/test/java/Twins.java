@@ -21,13 +21,16 @@ final class Twins {
         return all.toString();
     }
 
-    /** What shows only by further calls: which rows are STRICT, THE LIST, and the LISTS of those waiting. */
-    static String aftermath(GroupSeats x) {
+    /**
+     * What shows only by further calls: which rows are STRICT, THE LIST (its order by a small party,
+     * its end by a large one), and the LISTS of those waiting.
+     */
+    static String aftermath(GroupSeats x, int n) {
         StringBuilder all = new StringBuilder();
         for (int row = 0; row < 10; row++) {
             all.append(x.strict(row, false)).append(' ');
         }
-        all.append("| book ").append(x.book(4, 0)).append(" | list ").append(x.list(0)).append(" | cancel ");
+        all.append("| book ").append(x.book(n, 0)).append(" | list ").append(x.list(0)).append(" | cancel ");
         for (int booking = 0; booking < 4; booking++) {
             all.append(x.cancel(booking)).append(' ');
         }
